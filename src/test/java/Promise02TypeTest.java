@@ -9,7 +9,7 @@ public final class Promise02TypeTest {
     private static void charactersThatAreTaken() {
         int taken = 0;
         ConditionDesk desk = new ConditionDesk();
-        for (int c = 0; c < 300; c++) {
+        for (int c = 0; c < 200; c++) {
             boolean good = c >= 32 && c <= 126;
             Check.due("type of " + c, desk.type((char) c), good);
             taken += good ? 1 : 0;

@@ -14,6 +14,7 @@ public final class Promise03CompileTest {
         tooDeep();
         theLesserOfOneToken();
         theFirstFromTheLeft();
+        faultsLeaveNothingBehind();
         Check.end();
     }
 
@@ -116,7 +117,7 @@ public final class Promise03CompileTest {
             Check.good("x" + r, 1);
         }
         for (String word : new String[] {"x", "x32", "x33", "x40", "x99", "x100", "x00", "x01", "x031", "x1a", "xa",
-            "xa1", "x1x", "X1", "PC", "Pid", "pcc", "p", "counts", "coun", "olds", "ol", "a", "Z", "word", "xx1"}) {
+            "xa1", "x1x", "X1", "PC", "Pid", "pcc", "p", "counts", "coun", "olds", "ol", "a", "z", "A", "Z", "word", "xx1"}) {
             Check.fault(word, 2, 0);
             Check.fault("1 + " + word + " + 1", 2, 4);
         }
@@ -274,5 +275,20 @@ public final class Promise03CompileTest {
         Check.fault("(1 + foo", 2, 5);
         Check.fault("x32 12a", 2, 0);
         Check.fault("12a x32", 1, 0);
+    }
+
+    private static void faultsLeaveNothingBehind() {
+        ConditionDesk desk = new ConditionDesk();
+        String[] faulty = {"1+2*(3-[4<<(", "((((((((1", "----", "1||2&&3==4|5^6&7<<8+9*", "old(byte[pc", "old", "half"};
+        for (int turn = 0; turn < 4; turn++) {
+            for (String text : faulty) {
+                Check.due("compile of '" + text + "'", Check.typed(desk, text).compile(0), 1 + 8 * text.length());
+            }
+        }
+        Check.compiled(desk, 0, "!".repeat(31) + "((((((((1))))))))");
+        Check.due("parts", desk.about(0, 4), 40);
+        Check.asked(desk, "the good one", 0, 0, 32);
+        Check.compiled(desk, 0, "1-2-3");
+        Check.asked(desk, "the good one", 1, -4, 5);
     }
 }

@@ -12,6 +12,7 @@ public final class Promise09AskTest {
         cells();
         failures();
         steps();
+        asDeepAsPartsGo();
         Check.end();
     }
 
@@ -82,6 +83,10 @@ public final class Promise09AskTest {
         Check.value("-old(3)+1", -2);
         Check.value("!changed(3)", 1);
         Check.value("1+2<<1|1==7&&5||0", 1);
+        Check.value("(0||1)*3", 3);
+        Check.value("3*(2&&2)", 3);
+        Check.value("byte[0||1]+2", 2);
+        Check.value("old(0||1)+2", 3);
     }
 
     private static void fromTheLeft() {
@@ -266,6 +271,23 @@ public final class Promise09AskTest {
         step("changed(1+2)", 4);
         step("old(1/0)+1", 5);
         step("changed([1])+1", 4);
+    }
+
+    private static void asDeepAsPartsGo() {
+        Check.asked(Check.desk("-".repeat(39) + "1"), "39 signs before one", 1, -1, 40);
+        Check.asked(Check.desk("~".repeat(39) + "5"), "39 signs before one", 1, -6, 40);
+        Check.asked(Check.desk("-" + "1+".repeat(19) + "1"), "19 signs between", 1, 18, 40);
+        Check.asked(Check.desk("-" + "1-".repeat(18) + "-2"), "as many, and one before", 1, -16, 39);
+        ConditionDesk desk = Check.desk("-".repeat(37) + "old(x1)");
+        desk.set(1, 3);
+        Check.asked(desk, "old at the bottom", 1, -3, 39);
+        desk.set(1, 4);
+        Check.asked(desk, "old at the bottom", 1, -3, 38);
+        Check.compiled(desk, 0, "old(" + "-".repeat(37) + "x1)");
+        Check.asked(desk, "old at the top", 1, -4, 39);
+        desk.set(1, 5);
+        Check.asked(desk, "old at the top", 1, -4, 1);
+        Check.asked(desk, "old at the top", 1, -5, 1);
     }
 
     private static void step(String text, long want) {
