@@ -8,7 +8,8 @@ public final class ModelRunsTest {
     private static final String[] BETWEEN = {"||", "&&", "==", "!=", "<=", ">=", "<<", ">>", "<", ">", "|", "^", "&",
         "+", "-", "*", "/", "%", "/", "&&", "||", "+"};
     private static final String[] ODD = {"x32", "x07", "x", "old", "byte", "half(", "12a", "0x", "4294967296", "=",
-        "$", ")", "]", "(", "[", "foo", "! =", "||", "~", "changed", "((((((((", "[[[[[[[", "[(((byte[old(([(", "!!!!!!!!!!!!!!!!!!!!!!!!!!!!!!!!!!", "1 2", "old(("};
+        "$", ")", "]", "(", "[", "foo", "! =", "||", "~", "changed", "((((((((", "[[[[[[[", "[(((byte[old(([(",
+        "!!!!!!!!!!!!!!!!!!!!!!!!!!!!!!!!!!", "1 2", "old(("};
 
     private final Random random;
     private final ConditionDesk desk = new ConditionDesk();

@@ -117,7 +117,8 @@ public final class Promise03CompileTest {
             Check.good("x" + r, 1);
         }
         for (String word : new String[] {"x", "x32", "x33", "x40", "x99", "x100", "x00", "x01", "x031", "x1a", "xa",
-            "xa1", "x1x", "X1", "PC", "Pid", "pcc", "p", "counts", "coun", "olds", "ol", "a", "z", "A", "Z", "word", "xx1"}) {
+            "xa1", "x1x", "X1", "PC", "Pid", "pcc", "p", "counts", "coun", "olds", "ol", "a", "z", "A", "Z",
+            "word", "xx1"}) {
             Check.fault(word, 2, 0);
             Check.fault("1 + " + word + " + 1", 2, 4);
         }
