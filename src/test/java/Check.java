@@ -3,14 +3,20 @@ import java.util.function.LongSupplier;
 /** What the tests share: they compare answers, type texts, and end with code 1 if an answer was wrong. */
 final class Check {
     private static int wrong = 0;
+    private static String sentence = "";
 
     private Check() {
+    }
+
+    /** Which promise, and which of its sentences, the checks behind this one are for. */
+    static void sentence(int promise, String words) {
+        sentence = "promise " + promise + ", \"" + words + "\": ";
     }
 
     static void due(String call, long got, long want) {
         if (got != want) {
             wrong++;
-            System.out.println(call + " answered " + got + ", due is " + want);
+            System.out.println(sentence + call + " answered " + got + ", due is " + want);
         }
     }
 
@@ -37,7 +43,7 @@ final class Check {
             got = "threw " + e.getClass().getName();
         }
         wrong++;
-        System.out.println(call + " " + got + ", due is a throw of " + want.getName());
+        System.out.println(sentence + call + " " + got + ", due is a throw of " + want.getName());
     }
 
     static ConditionDesk typed(ConditionDesk desk, String text) {
@@ -75,6 +81,37 @@ final class Check {
         ConditionDesk desk = desk(text);
         due("ask of " + text, desk.ask(0), value == 0 ? 0 : 1);
         due("value of " + text, desk.about(0, 0), value);
+    }
+
+    /** All that can be seen without asking: a call that is refused must leave it as it is. */
+    static String state(ConditionDesk desk) {
+        StringBuilder state = new StringBuilder();
+        for (int what = 0; what < 3; what++) {
+            state.append(desk.count(what)).append(' ');
+        }
+        for (int k = 0; k < 8; k++) {
+            state.append(stateOf(desk, k));
+        }
+        return state.toString();
+    }
+
+    private static String stateOf(ConditionDesk desk, int k) {
+        StringBuilder state = new StringBuilder("/");
+        try {
+            for (int what = 0; what < 6; what++) {
+                state.append(' ').append(desk.about(k, what));
+            }
+        } catch (IllegalStateException e) {
+            state.append(" not there ");
+        }
+        return state.toString();
+    }
+
+    static void same(String what, String got, String want) {
+        if (!got.equals(want)) {
+            wrong++;
+            System.out.println(sentence + what + " is " + got + ", due is " + want);
+        }
     }
 
     static void end() {
