@@ -91,8 +91,9 @@ public final class Promise03BoundaryTest {
     private static void nothingOfAFaultStays() {
         Check.sentence(3, "or the fault + 8 * its place: nothing but the text goes");
         ConditionDesk desk = new ConditionDesk();
-        for (int turn = 0; turn < 3; turn++) {
-            for (String text : new String[] {"((((((((1", "[[[[[[[[-", "1+2*(3", "!".repeat(40), "old", "byte"}) {
+        String[] faulty = {"((((((((1", "[[[[[[[[-", "1||2&&3==4|5^6&7<<8+9*(1", "!".repeat(40), "old", "byte"};
+        for (int turn = 0; turn < 4; turn++) {
+            for (String text : faulty) {
                 Check.due("compile of '" + text + "'", Check.typed(desk, text).compile(0), 1 + 8 * text.length());
             }
         }
